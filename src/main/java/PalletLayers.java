@@ -220,6 +220,7 @@ public final class PalletLayers {
         }
         refuseOnTruck(goes);
         refuseEmpty(goes);
+        // A pallet is aboard once at most, so the row is never full here; its index is tested all the same.
         if (hasLesserStopAboard(stop) || aboardCount >= aboard.length) {
             throw new IllegalStateException("a pallet for an earlier stop would be barred");
         }

@@ -22,6 +22,7 @@ public final class PromisesTest {
         pallet();
         put();
         putReasonsInTheirOrder();
+        rulesAtFirst();
         fill();
         take();
         support();
@@ -204,6 +205,41 @@ public final class PromisesTest {
         Checks.due("7: least rules", x.put(0, 0, 1), -3);
         x.rules(100, 100, 10000);
         Checks.due("7: greatest rules", x.put(0, 0, 4), 3);
+    }
+
+    /** Half a support is just enough at first, and the load is 10000; no ten layers reach the door. */
+    private static void rulesAtFirst() {
+        PalletLayers x = new PalletLayers(2, 2);
+        x.kind(1, 2, 1, 1);
+        x.kind(2, 1, 1, 1);
+        x.search(0, 5000);
+        x.search(1, 5000);
+        x.pallet();
+        x.put(0, 0, 1);
+        Checks.due("7: a share of 50 at first: a half is enough", x.put(0, 1, 2), 2);
+        Checks.due("12: a half", x.support(0, 1, 1), 50);
+        PalletLayers fifths = new PalletLayers(5, 5);
+        fifths.kind(2, 2, 1, 1);
+        fifths.kind(5, 1, 1, 1);
+        fifths.search(0, 5000);
+        fifths.search(1, 5000);
+        fifths.pallet();
+        fifths.put(0, 0, 1);
+        Checks.due("7: two of five are not enough at first", fifths.put(0, 1, 1), -2);
+        fifths.rules(40, 100, 10000);
+        Checks.due("7: they are with 40", fifths.put(0, 1, 1), 2);
+        PalletLayers heavy = new PalletLayers(6, 6);
+        heavy.kind(1, 1, 6, 100);
+        heavy.search(0, 5000);
+        heavy.pallet();
+        heavy.fill(0, 0, 72);
+        Checks.due("7: a load of 10000 at first: above it", heavy.put(0, 0, 29), -4);
+        Checks.due("7: just it", heavy.put(0, 0, 28), 3);
+        PalletLayers high = new PalletLayers(1, 1);
+        high.kind(1, 1, 6, 0);
+        high.search(0, 5000);
+        high.pallet();
+        Checks.due("7: the door at first is above ten of the highest", high.fill(0, 0, 10), 10);
     }
 
     private static void pallet() {
