@@ -1,3 +1,7 @@
+import java.util.function.Consumer;
+import java.util.function.Supplier;
+import java.util.function.ToLongFunction;
+
 /** What the tests share: answers and refusals are compared, wrong ones printed and counted. */
 final class Checks {
     interface Call {
@@ -17,6 +21,13 @@ final class Checks {
         }
     }
 
+    static void same(String what, String got, String want) {
+        made++;
+        if (!got.equals(want)) {
+            tell(what + " answered " + got + ", due is " + want);
+        }
+    }
+
     static void holds(String what, boolean got) {
         made++;
         if (!got) {
@@ -32,6 +43,21 @@ final class Checks {
         } else if (isTheMachines(got)) {
             tell(what + ": the machine itself threw " + got);
         }
+    }
+
+    /** Refused on a new object of the scene, which then shows what one shows without that call. */
+    static void refusedUnchanged(String what, Class<? extends RuntimeException> want, Supplier<PalletLayers> scene,
+            Consumer<PalletLayers> call) {
+        PalletLayers x = scene.get();
+        refused(what, want, () -> call.accept(x));
+        same(what + ": the view behind it", View.of(x), View.of(scene.get()));
+    }
+
+    /** Answered on a new object of the scene, and nothing has changed. */
+    static void dueUnchanged(String what, long want, Supplier<PalletLayers> scene, ToLongFunction<PalletLayers> call) {
+        PalletLayers x = scene.get();
+        due(what, call.applyAsLong(x), want);
+        same(what + ": the view behind it", View.of(x), View.of(scene.get()));
     }
 
     static RuntimeException thrownBy(Call call) {
