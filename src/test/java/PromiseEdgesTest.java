@@ -717,6 +717,8 @@ public final class PromiseEdgesTest {
         Checks.due("13: kind 5 alone", six.told(0, 5), 32);
         six.put(0, 5, 1);
         Checks.due("13: twice is one bit", six.told(0, 5), 32);
+        six.take(0);
+        Checks.due("13: one of the two is left", six.told(0, 5), 32);
     }
 
     // Promise 14: "NoSuchElementException, IllegalArgumentException"
@@ -809,6 +811,27 @@ public final class PromiseEdgesTest {
         Checks.due("15: the lesser one is unloaded", x.truck(0, 5), 3);
         x.unload(5);
         Checks.due("15: the truck is empty", x.truck(6, 9), 1);
+        for (int stop = 0; stop <= 9; stop++) {
+            int s = stop;
+            Supplier<PalletLayers> oneAboard = () -> aboardFor(s);
+            for (int second = 0; second <= 9; second++) {
+                int t = second;
+                if (t > s) {
+                    Checks.refusedUnchanged("15: " + t + " behind " + s, STATE, oneAboard, y -> y.truck(1, t));
+                } else {
+                    Checks.due("15: " + t + " behind " + s, aboardFor(s).truck(1, t), 2);
+                }
+            }
+        }
+    }
+
+    /** Eight laden pallets; so many of them, from 0 on, are aboard for these stops. */
+    private static PalletLayers aboardFor(int... stops) {
+        PalletLayers x = eightLaden();
+        for (int i = 0; i < stops.length; i++) {
+            x.truck(i, stops[i]);
+        }
+        return x;
     }
 
     private static PalletLayers eightLaden() {
@@ -864,6 +887,12 @@ public final class PromiseEdgesTest {
         Checks.refused("16: and behind 5", STATE, () -> again.unload(5));
         Checks.due("16: nothing is behind 0", again.unload(0), 1);
         Checks.due("16: both for 2", again.unload(2), 2);
+        Checks.refusedUnchanged("16: one behind one", STATE, () -> aboardFor(1, 0), y -> y.unload(1));
+        Checks.refusedUnchanged("16: one behind two", STATE, () -> aboardFor(9, 9, 8), y -> y.unload(9));
+        Checks.refusedUnchanged("16: two behind one", STATE, () -> aboardFor(9, 8, 8), y -> y.unload(9));
+        Checks.refusedUnchanged("16: in the middle", STATE, () -> aboardFor(9, 5, 0), y -> y.unload(5));
+        Checks.due("16: one for the same stop is behind", aboardFor(9, 5, 5).unload(5), 2);
+        Checks.due("16: those ahead do not matter", aboardFor(9, 5, 0).unload(0), 1);
     }
 
     // Promise 16: none for a stop: 0, whatever stands on the truck.
