@@ -5,8 +5,8 @@ import java.util.Random;
  * seeds, so they are always the same.
  */
 public final class RandomRunsTest {
-    private static final int RUNS = 3000;
-    private static final int CALLS = 300;
+    private static final int RUNS = 1800;
+    private static final int CALLS = 512;
     private static final int[] EDGES = {Integer.MIN_VALUE, Integer.MIN_VALUE + 1, Integer.MAX_VALUE - 1,
         Integer.MAX_VALUE};
 
